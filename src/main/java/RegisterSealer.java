@@ -45,7 +45,7 @@ public final class RegisterSealer {
     private long proof;
     private long output;
     private final long[] registers;
-    // A key or session is told to be there by a flag of its own: its words may be 0.
+    // Flags of their own tell which keys and sessions are there, as any of their words may be 0.
     private final boolean[] keyThere;
     private final long[] keySecrets;
     private final long[] keyNames;

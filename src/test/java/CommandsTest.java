@@ -252,8 +252,6 @@ public final class CommandsTest {
                 int mask = chosen == 1 ? 1 << p : 255 - (1 << p);
                 seal(x, mask, 60);
                 unseal(x, 0);
-                x.quote(0, 0, 0, 0);
-                unseal(x, 0);
                 x.locality(3);
                 x.extend(p, 5);
                 int want = chosen == 1 ? RegisterSealer.POLICY : 0;
