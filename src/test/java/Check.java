@@ -61,6 +61,14 @@ final class Check {
         return 2 ^ unfold(drawn ^ unfold(name));
     }
 
+    /** The caller's nonce with which this proof is right: MAC reckoned backward. */
+    static long callerNonceFor(long proof, long secret, long machineNonce, int command, long parameter) {
+        long inner = unfold(proof) ^ fold(2, secret ^ 54);
+        long beforeParameter = unfold(inner) ^ parameter;
+        long beforeCommand = unfold(beforeParameter) ^ command;
+        return unfold(beforeCommand) ^ fold(fold(5, secret ^ 92), machineNonce);
+    }
+
     /** The h xor w for which FOLD(h, w) is this word. */
     private static long unfold(long folded) {
         long inverse = 1;
